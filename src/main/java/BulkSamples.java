@@ -203,7 +203,7 @@ public final class BulkSamples {
 
     /** The mailing of a number, or null when there is none. */
     private Mailing find(int number) {
-        if (number < 1 || number > mailingCount || number > MAX_MAILINGS) {
+        if (number < 1 || number > MAX_MAILINGS) {
             return null;
         }
         return mailings[number - 1];
@@ -310,8 +310,8 @@ public final class BulkSamples {
     }
 
     /**
-     * A whole number of up to 72 digits, none below 0. The largest that comes up is below
-     * C(200, 100) * 100 * 100, of 63 digits.
+     * A whole number of up to 72 digits, none below 0. What comes up is C(200, 100) * 200 * 200 at
+     * most, of 64 digits.
      */
     private static final class Whole {
         private static final int PARTS = 8;

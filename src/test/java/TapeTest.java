@@ -30,7 +30,7 @@ public final class TapeTest {
         return takenFrom(x, 1);
     }
 
-    /** Empties the tape by 17 mailings at most, from a number on. */
+    /** Empties the tape, whatever its length, by 9 new mailings, the first of this number. */
     private static int takenFrom(BulkSamples x, int mailing) {
         int taken = 0;
         int number = mailing;
