@@ -9,6 +9,7 @@ public final class BoundTest {
         check.end();
     }
 
+    // "true; false, when it is not 500 .. 999"
     private static void edges() {
         BulkSamples x = new BulkSamples();
         for (int trust : new int[] {500, 501, 750, 998, 999}) {
@@ -19,6 +20,7 @@ public final class BoundTest {
         }
     }
 
+    // "TRUST is another one from now on"
     private static void refusedChangesNothing() {
         // None wrong of 30 of 200: accepted up to a trust of 840, as the chance is 0.159108481.
         BulkSamples x = Check.sampled(200, 30);

@@ -8,12 +8,14 @@ public final class ChanceTest {
     public static void main(String[] args) {
         ordinary();
         outsideNumbers();
+        lastNumbersTaken();
         nothingChanges();
         allOfFewItems();
         manyItems();
         check.end();
     }
 
+    // "in thousand millionths, cut"
     private static void ordinary() {
         same(3, 1, 1, 0, 0, 666666666L);
         same(3, 1, 1, 1, 1, 333333333L);
@@ -31,6 +33,7 @@ public final class ChanceTest {
         same(200, 100, 100, 1, 1, 999999999L);
     }
 
+    // "OUTSIDE when n is not 1 .. 200, wrong or sample not 0 .. n, side not 0 or 1"
     private static void outsideNumbers() {
         for (int n : new int[] {0, -1, 201, Integer.MIN_VALUE, Integer.MAX_VALUE}) {
             same(n, 0, 0, 0, 0, BulkSamples.OUTSIDE);
@@ -44,6 +47,22 @@ public final class ChanceTest {
         }
         same(200, 201, 0, 0, 0, BulkSamples.OUTSIDE);
         same(200, 0, 201, 0, 0, BulkSamples.OUTSIDE);
+    }
+
+    private static void lastNumbersTaken() {
+        for (int n : new int[] {1, 2, 199, 200}) {
+            same(n, 0, 0, 0, 0, 1000000000L);
+            same(n, n, 0, 0, 1, 1000000000L);
+            same(n, 0, n, 0, 0, 1000000000L);
+            same(n, n, n, n, 1, 1000000000L);
+            same(n, n, n, n - 1, 0, 0);
+            same(n, n + 1, 0, 0, 0, BulkSamples.OUTSIDE);
+            same(n, 0, n + 1, 0, 1, BulkSamples.OUTSIDE);
+            same(n, -1, 0, 0, 0, BulkSamples.OUTSIDE);
+            same(n, 0, -1, 0, 1, BulkSamples.OUTSIDE);
+            same(n, n, n, n, -1, BulkSamples.OUTSIDE);
+            same(n, n, n, n, 2, BulkSamples.OUTSIDE);
+        }
     }
 
     private static void nothingChanges() {

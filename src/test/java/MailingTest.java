@@ -4,11 +4,13 @@ public final class MailingTest {
 
     public static void main(String[] args) {
         refusedTakeNoNumber();
+        noneWithAnyNumberOfThem();
         twentyAtMost();
         itemsAreKept();
         check.end();
     }
 
+    // "OUTSIDE (n is not 0 .. 200)"
     private static void refusedTakeNoNumber() {
         BulkSamples x = new BulkSamples();
         for (int n : new int[] {-1, 201, Integer.MIN_VALUE, Integer.MAX_VALUE}) {
@@ -22,6 +24,20 @@ public final class MailingTest {
         check.same("mailing of 1", x.mailing(1), 2);
     }
 
+    // "0 for none (n = 0), also with 20"
+    private static void noneWithAnyNumberOfThem() {
+        BulkSamples x = new BulkSamples();
+        for (int made = 0; made < 20; made++) {
+            check.same("none with " + made, x.mailing(0), 0);
+            check.same("none is made", x.depth(made + 1, 0, 0), BulkSamples.UNKNOWN);
+            check.same("the next one", x.mailing(3), made + 1);
+        }
+        check.same("none with 20", x.mailing(0), 0);
+        check.same("and again", x.mailing(0), 0);
+        check.same("1 is not taken with 20", x.mailing(1), BulkSamples.ROOM);
+    }
+
+    // "20 at most", "ROOM"
     private static void twentyAtMost() {
         BulkSamples x = new BulkSamples();
         for (int i = 1; i <= 20; i++) {
@@ -37,6 +53,7 @@ public final class MailingTest {
         check.same("mailing 1 is as it was", x.depth(1, 0, 2), BulkSamples.OUTSIDE);
     }
 
+    // "A mailing of n items: its number"
     private static void itemsAreKept() {
         BulkSamples x = new BulkSamples();
         x.mailing(200);

@@ -10,6 +10,7 @@ public final class NewObjectTest {
         check.end();
     }
 
+    // "No mailings, .."
     private static void noMailings() {
         BulkSamples x = new BulkSamples();
         for (int m : new int[] {Integer.MIN_VALUE, -1, 0, 1, 20, 21, Integer.MAX_VALUE}) {
@@ -23,12 +24,18 @@ public final class NewObjectTest {
         check.same("the first mailing", x.mailing(1), 1);
     }
 
+    // ".. an empty tape."
     private static void emptyTape() {
         BulkSamples x = new BulkSamples();
         x.mailing(1);
         check.same("a sample from the empty tape", x.sample(1, 1), BulkSamples.ROOM);
+        x.tape(0);
+        check.same("a sample from one number", x.sample(1, 1), 1);
+        x.mailing(1);
+        check.same("a sample from the empty tape again", x.sample(2, 1), BulkSamples.ROOM);
     }
 
+    // "(none at first)", "(950 at first)", "20 at first"
     private static void firstValues() {
         BulkSamples x = Check.sampled(200, 30);
         check.same("no kind is wrong", x.wrong(1, 0, 0), 0);

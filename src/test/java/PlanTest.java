@@ -7,6 +7,7 @@ public final class PlanTest {
         badAddsTen();
         rowBeginsAnewBehindABadOne();
         noneChangesNothing();
+        allTheWayDownAndUp();
         customersAreApart();
         outsideNumbers();
         check.end();
@@ -18,6 +19,7 @@ public final class PlanTest {
         }
     }
 
+    // "each third good one in a row (the row begins anew then, ..) takes 5, to 5 at least"
     private static void eachThirdGoodTakesFive() {
         BulkSamples x = new BulkSamples();
         int due = 20;
@@ -31,6 +33,7 @@ public final class PlanTest {
         run(x, 0, new int[][] {{1, 5}, {1, 5}, {0, 15}, {1, 15}, {1, 15}, {1, 10}});
     }
 
+    // "a bad one adds 10, to 60 at most"
     private static void badAddsTen() {
         run(new BulkSamples(), 49, new int[][] {{0, 30}, {0, 40}, {0, 50}, {0, 60}, {0, 60}, {2, 60}});
         // From 55 the 60 is the end of ten.
@@ -38,16 +41,32 @@ public final class PlanTest {
             {0, 60}, {1, 60}, {1, 60}, {1, 55}});
     }
 
+    // "the row begins anew .. behind a bad one"
     private static void rowBeginsAnewBehindABadOne() {
         run(new BulkSamples(), 7, new int[][] {{1, 20}, {1, 20}, {0, 30}, {1, 30}, {1, 30}, {1, 25}, {1, 25},
             {0, 35}, {1, 35}, {1, 35}, {1, 30}});
     }
 
+    // "or none (2: nothing changes)"
     private static void noneChangesNothing() {
         run(new BulkSamples(), 7, new int[][] {{2, 20}, {1, 20}, {2, 20}, {1, 20}, {2, 20}, {2, 20}, {1, 15},
             {2, 15}, {2, 15}, {2, 15}, {0, 25}, {2, 25}});
     }
 
+    private static void allTheWayDownAndUp() {
+        // From 60 the last that is taken leads to 5; from 5 the last that is added leads to 55, then 60.
+        BulkSamples x = new BulkSamples();
+        run(x, 0, new int[][] {{0, 30}, {0, 40}, {0, 50}, {0, 60}, {0, 60}});
+        for (int due = 55; due >= 5; due -= 5) {
+            run(x, 0, new int[][] {{1, due + 5}, {1, due + 5}, {1, due}});
+        }
+        run(x, 0, new int[][] {{1, 5}, {1, 5}, {1, 5}, {2, 5}});
+        run(x, 0, new int[][] {{0, 15}, {0, 25}, {0, 35}, {0, 45}, {0, 55}, {0, 60}, {0, 60}, {2, 60}});
+        // A bad one at the most begins the row anew all the same.
+        run(x, 0, new int[][] {{1, 60}, {1, 60}, {0, 60}, {1, 60}, {1, 60}, {1, 55}});
+    }
+
+    // "A customer (0 .. 49)"
     private static void customersAreApart() {
         BulkSamples x = new BulkSamples();
         x.plan(0, 1);
@@ -60,6 +79,7 @@ public final class PlanTest {
         check.same("the others", x.plan(2, 2), 20);
     }
 
+    // "OUTSIDE."
     private static void outsideNumbers() {
         BulkSamples x = new BulkSamples();
         x.plan(0, 1);
@@ -74,5 +94,9 @@ public final class PlanTest {
         }
         check.same("the third one", x.plan(0, 1), 15);
         check.same("the last customer", x.plan(49, 2), 20);
+        for (int good = 0; good <= 2; good++) {
+            check.same("customer 0, good " + good, x.plan(0, good), 25);
+            check.same("customer 49, good " + good, x.plan(49, good), 30);
+        }
     }
 }

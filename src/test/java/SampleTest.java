@@ -5,10 +5,13 @@ public final class SampleTest {
     public static void main(String[] args) {
         drawsFromTheTape();
         allIfItHasLess();
+        aboutAllOfThem();
+        asManyAsTheTapeHas();
         whichRefusal();
         check.end();
     }
 
+    // "each takes a number from the tape's beginning: how many"
     private static void drawsFromTheTape() {
         BulkSamples x = new BulkSamples();
         x.mailing(50);
@@ -27,6 +30,7 @@ public final class SampleTest {
         check.same("not 19", x.wrong(2, 0, 19), BulkSamples.OUTSIDE);
     }
 
+    // "n items are drawn, all if it has less"
     private static void allIfItHasLess() {
         BulkSamples x = new BulkSamples();
         x.mailing(6);
@@ -44,6 +48,45 @@ public final class SampleTest {
         check.same("not 7", x.wrong(1, 0, 7), BulkSamples.OUTSIDE);
     }
 
+    private static void aboutAllOfThem() {
+        for (int items : new int[] {1, 2, 6, 199, 200}) {
+            for (int n : new int[] {1, items - 1, items, items + 1, 1000, Integer.MAX_VALUE}) {
+                BulkSamples x = new BulkSamples();
+                x.mailing(items);
+                x.mailing(200);
+                Check.fillTape(x, items);
+                int drawn = n < items ? n : items;
+                int due = n < 1 ? BulkSamples.OUTSIDE : drawn;
+                check.same(n + " of " + items, x.sample(1, n), due);
+                if (due > 0) {
+                    check.same("not more wrong", x.wrong(1, 0, drawn + 1), BulkSamples.OUTSIDE);
+                    check.same("all of them wrong", x.wrong(1, 0, drawn), drawn);
+                }
+                int left = due > 0 ? items - drawn : items;
+                check.same("not more left", x.sample(2, left + 1), BulkSamples.ROOM);
+                check.same("all that is left", x.sample(2, left), left > 0 ? left : BulkSamples.OUTSIDE);
+            }
+        }
+    }
+
+    // "ROOM (the tape has fewer than are drawn)"
+    private static void asManyAsTheTapeHas() {
+        for (int items : new int[] {1, 2, 50, 200}) {
+            for (int n : new int[] {items, items + 1, 301, Integer.MAX_VALUE}) {
+                BulkSamples x = new BulkSamples();
+                x.mailing(items);
+                Check.fillTape(x, items - 1);
+                check.same("one too few for " + n + " of " + items, x.sample(1, n), BulkSamples.ROOM);
+                check.same("not sampled", x.wrong(1, 0, 0), BulkSamples.STATE);
+                x.tape(1);
+                check.same("just enough for " + n + " of " + items, x.sample(1, n), items);
+                x.mailing(1);
+                check.same("none is left", x.sample(2, 1), BulkSamples.ROOM);
+            }
+        }
+    }
+
+    // "UNKNOWN, OUTSIDE (n is below 1), STATE (sampled), ROOM (..)"
     private static void whichRefusal() {
         BulkSamples x = new BulkSamples();
         x.mailing(6);

@@ -22,14 +22,28 @@ public final class ShareTest {
         same(MOST, LEAST, -999999);
         same(LEAST, MOST, -1000000);
         same(1, MOST, 0);
+        same(MOST, MOST, 1000000);
+        same(MOST, -1, -2147483647000000L);
+        // Cut towards 0 on both sides of the last millionth; in an int 2148 millions would wrap around.
+        same(1, 1000000, 1);
+        same(-1, 1000000, -1);
+        same(1999999, 2000000, 999999);
+        same(-1999999, 2000000, -999999);
+        same(2147, 1, 2147000000L);
+        same(2148, 1, 2148000000L);
+        same(-2149, 1, -2149000000L);
+        same(1, 1, 1000000);
+        same(1, -1, -1000000);
         throwsForNothing();
         check.end();
     }
 
+    // "A part of all in millionths, cut towards 0."
     private static void same(int part, int all, long due) {
         check.same("share(" + part + ", " + all + ")", new BulkSamples().share(part, all), due);
     }
 
+    // "ArithmeticException when all is 0."
     private static void throwsForNothing() {
         BulkSamples x = Check.sampled(200, 60);
         x.depth(1, 0, 1);

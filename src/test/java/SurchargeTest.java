@@ -7,10 +7,12 @@ public final class SurchargeTest {
         byVerdict();
         eachDepthCounts();
         roundedUp();
+        wholePart();
         followsTrust();
         check.end();
     }
 
+    // "UNKNOWN, STATE (not sampled)"
     private static void refusals() {
         BulkSamples x = new BulkSamples();
         x.mailing(10);
@@ -19,6 +21,13 @@ public final class SurchargeTest {
         check.same("unknown", x.surcharge(2), BulkSamples.UNKNOWN);
         check.same("unknown", x.surcharge(Integer.MIN_VALUE), BulkSamples.UNKNOWN);
         check.same("not sampled", x.surcharge(1), BulkSamples.STATE);
+        check.same("a sample is refused", x.sample(1, 1), BulkSamples.ROOM);
+        check.same("not sampled still", x.surcharge(1), BulkSamples.STATE);
+        Check.fillTape(x, 1);
+        x.sample(1, 1);
+        check.same("sampled, none wrong", x.surcharge(1), 0);
+        x.wrong(1, 0, 1);
+        check.same("sampled, refused", x.surcharge(1), 30);
     }
 
     /** Mailing 1 of n items, declared at the depths in their order, of which so many are drawn. */
@@ -33,6 +42,7 @@ public final class SurchargeTest {
         return x;
     }
 
+    // "nothing for 1, all of the DISCOUNT for 3, its part as many as w is of s, .. for 2"
     private static void byVerdict() {
         BulkSamples x = declared(200, 60, 0, 0, 0, 200);
         check.same("accepted", x.verdict(1), 1);
@@ -67,11 +77,14 @@ public final class SurchargeTest {
         return x.surcharge(1);
     }
 
+    // "rounded up"
     private static void roundedUp() {
         check.same("1 of 30 of 30 cents", oneOfThirty(30), 1);
         check.same("1 of 30 of 31 cents", oneOfThirty(31), 2);
         check.same("1 of 30 of 59 cents", oneOfThirty(59), 2);
         check.same("1 of 30 of 60 cents", oneOfThirty(60), 2);
+        check.same("1 of 30 of 61 cents", oneOfThirty(61), 3);
+        check.same("1 of 30 of 29 cents", oneOfThirty(29), 1);
         check.same("1 of 30 of 1 cent", oneOfThirty(1), 1);
         check.same("1 of 30 of nothing", oneOfThirty(0), 0);
     }
@@ -81,6 +94,18 @@ public final class SurchargeTest {
         x.wrong(1, 0, 1);
         check.same("surcharged", x.verdict(1), 2);
         return x.surcharge(1);
+    }
+
+    /** All drawn are wrong, and the verdict is 2: the part is all of the discount. */
+    private static void wholePart() {
+        BulkSamples x = declared(20, 1, 0, 0, 0, 19);
+        x.bound(951);
+        x.wrong(1, 0, 1);
+        check.same("surcharged", x.verdict(1), 2);
+        check.same("1 of 1 of 57 cents", x.surcharge(1), 57);
+        x.wrong(1, 0, 0);
+        check.same("surcharged with none wrong", x.verdict(1), 2);
+        check.same("0 of 1 of 57 cents", x.surcharge(1), 0);
     }
 
     private static void followsTrust() {

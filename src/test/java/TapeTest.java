@@ -4,6 +4,7 @@ public final class TapeTest {
 
     public static void main(String[] args) {
         anyNumberIsTaken();
+        noneIsKeptForLater();
         for (int count : new int[] {0, 1, 199, 200, 201, 299, 300}) {
             check.same("tape after " + count, lengthAfter(count), count);
         }
@@ -13,6 +14,7 @@ public final class TapeTest {
         check.end();
     }
 
+    // "A number behind the tape."
     private static void anyNumberIsTaken() {
         int[] values = {0, -1, 1, 7, 7, Integer.MIN_VALUE, Integer.MAX_VALUE};
         BulkSamples x = new BulkSamples();
@@ -24,6 +26,7 @@ public final class TapeTest {
         check.same("a sample of all", x.sample(1, values.length), values.length);
     }
 
+    // "It is not taken when there are 300."
     private static int lengthAfter(int count) {
         BulkSamples x = new BulkSamples();
         Check.fillTape(x, count);
@@ -41,6 +44,23 @@ public final class TapeTest {
             number++;
         }
         return taken;
+    }
+
+    private static void noneIsKeptForLater() {
+        BulkSamples x = new BulkSamples();
+        Check.fillTape(x, 303);
+        x.mailing(2);
+        check.same("a sample from 300", x.sample(1, 2), 2);
+        check.same("those that were not taken don't follow", takenFrom(x, 2), 298);
+        x.mailing(1);
+        check.same("nor at the end", x.sample(11, 1), BulkSamples.ROOM);
+        BulkSamples y = new BulkSamples();
+        Check.fillTape(y, 300);
+        y.mailing(1);
+        y.sample(1, 1);
+        y.tape(1);
+        y.tape(1);
+        check.same("one more is taken, not two", takenFrom(y, 2), 300);
     }
 
     private static void roomAgainWhenTaken() {

@@ -5,6 +5,8 @@ public final class VerdictTest {
     public static void main(String[] args) {
         refusals();
         exactlyAtMost();
+        atTheFirstTrust();
+        atTheEndsOfTrust();
         allDrawn();
         twentiethIsCut();
         followsWhatIsWrong();
@@ -12,6 +14,7 @@ public final class VerdictTest {
         check.end();
     }
 
+    // "UNKNOWN, STATE (not sampled)"
     private static void refusals() {
         BulkSamples x = new BulkSamples();
         x.mailing(10);
@@ -19,8 +22,14 @@ public final class VerdictTest {
         check.same("unknown", x.verdict(2), BulkSamples.UNKNOWN);
         check.same("unknown", x.verdict(Integer.MAX_VALUE), BulkSamples.UNKNOWN);
         check.same("not sampled", x.verdict(1), BulkSamples.STATE);
+        check.same("a sample is refused", x.sample(1, 10), BulkSamples.ROOM);
+        check.same("not sampled still", x.verdict(1), BulkSamples.STATE);
+        Check.fillTape(x, 10);
+        x.sample(1, 10);
+        check.same("sampled", x.verdict(1), 1);
     }
 
+    // "is at most 1000 - t in 1000"
     private static void exactlyAtMost() {
         // One of 2 drawn, L + 1 = 1: the chance of none wrong is 1 in 2.
         BulkSamples x = Check.sampled(2, 1);
@@ -45,6 +54,59 @@ public final class VerdictTest {
         check.same("and more than 99 in 1000", z.verdict(1), 2);
     }
 
+    // "TRUST t (950 at first)"
+    private static void atTheFirstTrust() {
+        check.same("none of 19 of 25, were 2 wrong: 1 in 20", Check.sampled(25, 19).verdict(1), 1);
+        check.same("none of 18 of 25, were 2 wrong: 7 in 100", Check.sampled(25, 18).verdict(1), 2);
+        BulkSamples x = Check.sampled(20, 1);
+        x.wrong(1, 0, 1);
+        check.same("1 of 1 of 20, were 1 wrong: 1 in 20", x.verdict(1), 3);
+        x.bound(951);
+        check.same("that is more than 49 in 1000", x.verdict(1), 2);
+        x.bound(950);
+        check.same("and at most 50 in 1000", x.verdict(1), 3);
+        BulkSamples y = Check.sampled(20, 2);
+        y.wrong(1, 0, 1);
+        check.same("1 of 2 of 20, were 1 wrong: 2 in 20", y.verdict(1), 2);
+    }
+
+    private static void atTheEndsOfTrust() {
+        int[] trusts = {500, 999};
+        for (int trust : trusts) {
+            int accepted = 0;
+            int refused = 0;
+            for (int n = 1; n <= 200; n++) {
+                for (int found = 0; found <= 2; found++) {
+                    accepted += leastSample(n, found, trust, 1);
+                    refused += leastSample(n, found, trust, 3);
+                }
+            }
+            check.holds("edges of accepted at " + trust + ": " + accepted, accepted > 10);
+            check.holds("edges of refused at " + trust + ": " + refused, refused > 10);
+        }
+    }
+
+    /** Looks for two samples, one item apart, of which one has the verdict; how many it found. */
+    private static int leastSample(int n, int found, int trust, int verdict) {
+        for (int drawn = Math.max(1, found); drawn < n; drawn++) {
+            boolean first = Exact.verdict(n, drawn, found, trust) == verdict;
+            if (first != (Exact.verdict(n, drawn + 1, found, trust) == verdict)) {
+                atTrust(n, drawn, found, trust);
+                atTrust(n, drawn + 1, found, trust);
+                return 1;
+            }
+        }
+        return 0;
+    }
+
+    private static void atTrust(int n, int drawn, int found, int trust) {
+        BulkSamples x = Check.sampled(n, drawn);
+        x.wrong(1, 0, found);
+        x.bound(trust);
+        check.same("verdict for " + found + " of " + drawn + " of " + n + " at " + trust, x.verdict(1),
+            Exact.verdict(n, drawn, found, trust));
+    }
+
     private static void allDrawn() {
         BulkSamples x = Check.sampled(19, 19);
         check.same("all drawn, none wrong", x.verdict(1), 1);
@@ -57,6 +119,7 @@ public final class VerdictTest {
         check.same("all drawn, 2 wrong of 20", y.verdict(1), 3);
     }
 
+    // "L being a twentieth of n (cut)"
     private static void twentiethIsCut() {
         int[][] limits = {{1, 0}, {19, 0}, {20, 1}, {39, 1}, {40, 2}, {199, 9}, {200, 10}};
         for (int[] row : limits) {

@@ -6,10 +6,13 @@ public final class WrongTest {
         inPlaceOfWhatWas();
         outsideNumbers();
         notMoreThanWereDrawn();
+        upToAllDrawn();
+        onlyWhenSampled();
         whichRefusal();
         check.end();
     }
 
+    // "Of a kind so many drawn ones are wrong (in place of what was): how many of all kinds."
     private static void inPlaceOfWhatWas() {
         BulkSamples x = new BulkSamples();
         x.mailing(40);
@@ -26,6 +29,7 @@ public final class WrongTest {
         check.same("the other mailing", x.wrong(2, 0, 1), 1);
     }
 
+    // "OUTSIDE (a kind is not 0 .. 2, n below 0, ..)"
     private static void outsideNumbers() {
         BulkSamples x = Check.sampled(40, 20);
         x.wrong(1, 0, 4);
@@ -39,6 +43,7 @@ public final class WrongTest {
         check.same("nothing changed", x.wrong(1, 1, 0), 4);
     }
 
+    // "OUTSIDE (.. or all would be more than were drawn)"
     private static void notMoreThanWereDrawn() {
         BulkSamples x = Check.sampled(40, 20);
         x.wrong(1, 0, 4);
@@ -50,6 +55,41 @@ public final class WrongTest {
         check.same("nothing changed", x.wrong(1, 2, 0), 20);
     }
 
+    private static void upToAllDrawn() {
+        for (int drawn : new int[] {1, 2, 199, 200}) {
+            for (int kind = 0; kind <= 2; kind++) {
+                BulkSamples x = Check.sampled(200, drawn);
+                int other = (kind + 1) % 3;
+                check.same("one too many of " + drawn, x.wrong(1, kind, drawn + 1), BulkSamples.OUTSIDE);
+                check.same("all of " + drawn, x.wrong(1, kind, drawn), drawn);
+                check.same("and 1 of another kind", x.wrong(1, other, 1), BulkSamples.OUTSIDE);
+                check.same("and 0 of another kind", x.wrong(1, other, 0), drawn);
+                // Added up, these would be below 0 in an int.
+                check.same("and very many", x.wrong(1, other, Integer.MAX_VALUE), BulkSamples.OUTSIDE);
+                check.same("-1 of " + drawn, x.wrong(1, kind, -1), BulkSamples.OUTSIDE);
+                check.sameDouble("all of " + drawn + " still", x.shown(1), 1);
+                check.same("none of " + drawn, x.wrong(1, kind, 0), 0);
+            }
+        }
+    }
+
+    // "STATE (not sampled)"
+    private static void onlyWhenSampled() {
+        BulkSamples x = new BulkSamples();
+        x.mailing(10);
+        x.mailing(10);
+        check.same("none wrong, not sampled", x.wrong(1, 2, 0), BulkSamples.STATE);
+        x.sample(1, 1);
+        check.same("none wrong, and the sample was refused", x.wrong(1, 2, 0), BulkSamples.STATE);
+        Check.fillTape(x, 1);
+        x.sample(1, 1);
+        check.same("none wrong, sampled", x.wrong(1, 2, 0), 0);
+        check.same("one wrong, sampled", x.wrong(1, 2, 1), 1);
+        check.same("the other one is not sampled", x.wrong(2, 2, 0), BulkSamples.STATE);
+        check.same("nor has it so many drawn", x.wrong(2, 2, 1), BulkSamples.OUTSIDE);
+    }
+
+    // "UNKNOWN, OUTSIDE (..), STATE (not sampled)"
     private static void whichRefusal() {
         BulkSamples x = new BulkSamples();
         x.mailing(10);
